@@ -82,6 +82,21 @@ final class Checks {
         return hire;
     }
 
+    /** Lets one guest after the other bathe in a tub of size 1 in tent 0, which has a heater, mended where it must be. */
+    static void takeBaths(TubHire hire, int tub, int baths) {
+        for (int i = 0; i < baths; i++) {
+            hire.back(tub);
+            while (hire.tubOf(tub, 2) > 0) {
+                hire.mend(tub, hire.torn(tub, 0));
+            }
+            hire.out(tub, 0);
+            hire.gas(hire.tentOf(0, 2), 1);
+            hire.join(0);
+            due("the baths in 5 hours", hire.pass(5), 1);
+            hire.wash(20);
+        }
+    }
+
     static void end() {
         if (wrong > 0) {
             System.out.println(wrong + " answers are wrong");
