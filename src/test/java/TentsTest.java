@@ -164,6 +164,7 @@ public final class TentsTest {
         Checks.refused(hire, "heat(0, 1) again", 7, 1, () -> hire.heat(0, 1));
         Checks.refused(hire, "heat(1, 1) to a heater", 8, 0, () -> hire.heat(1, 1));
         Checks.due("heat(1, 0)", hire.heat(1, 0), 20);
+        Checks.refused(hire, "heat(1, 1) from tent 0", 7, 0, () -> hire.heat(1, 1));
         Checks.fails("heat(2, 0)", IndexOutOfBoundsException.class, () -> hire.heat(2, 0));
         Checks.fails("heat(-1, 0)", IndexOutOfBoundsException.class, () -> hire.heat(-1, 0));
         Checks.fails("heat(0, 2)", IndexOutOfBoundsException.class, () -> hire.heat(0, 2));

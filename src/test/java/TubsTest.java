@@ -181,11 +181,15 @@ public final class TubsTest {
         hire.tear(1, 4);
         Checks.refused(hire, "out(1, 2), torn", 3, 4, () -> hire.out(1, 2));
         Checks.refused(hire, "out(2, 2) to a tub", 4, 0, () -> hire.out(2, 2));
-        Checks.due("the coins after that", hire.number(13), 12);
-        Checks.due("out(2, 0)", hire.out(2, 0), 18);
+        hire.tear(1, 0);
+        Checks.refused(hire, "out(1, 2), torn at seam 0", 3, 0, () -> hire.out(1, 2));
+        hire.mend(1, 0);
+        Checks.due("the coins after that", hire.number(13), 10);
+        Checks.due("out(2, 0)", hire.out(2, 0), 16);
+        Checks.refused(hire, "out(2, 2) from tent 0", 2, 0, () -> hire.out(2, 2));
         hire.mend(1, 4);
         hire.mend(1, 6);
-        Checks.due("out(1, 1)", hire.out(1, 1), 18);
+        Checks.due("out(1, 1)", hire.out(1, 1), 16);
         Checks.due("the tubs in tents", hire.number(2), 3);
         Checks.fails("out(3, 0)", IndexOutOfBoundsException.class, () -> hire.out(3, 0));
         Checks.fails("out(-1, 0)", IndexOutOfBoundsException.class, () -> hire.out(-1, 0));

@@ -11,65 +11,48 @@ public final class UndoTest {
         Checks.end();
     }
 
-    private static void dueUndo(TubHire hire, String change, int what, int before, int after) {
-        Checks.due("number(" + what + ") after " + change, hire.number(what), after);
+    /** A change, and a number that it changes; the hour before makes what is there before it differ from all else. */
+    private static void dueUndo(TubHire hire, String name, int what, int by, Checks.Call change) {
+        hire.pass(1);
+        int before = hire.number(what);
+        int hour = hire.number(0);
+        change.run();
+        Checks.due("number(" + what + ") after " + name, hire.number(what), before + by);
         int changes = hire.number(15);
-        Checks.due("undo() of " + change, hire.undo(), changes - 1);
-        Checks.due("number(" + what + ") after undo of " + change, hire.number(what), before);
+        Checks.due("undo() of " + name, hire.undo(), changes - 1);
+        Checks.due("number(" + what + ") after undo of " + name, hire.number(what), before);
+        Checks.due("the hour after undo of " + name, hire.number(0), hour);
     }
 
     private static void undoesEachChange() {
         TubHire hire = Checks.withWarmTub(9);
-        hire.tub(2);
-        dueUndo(hire, "tub", 1, 1, 2);
-        hire.tent(2);
-        dueUndo(hire, "tent", 4, 1, 2);
-        hire.heater();
-        dueUndo(hire, "heater", 5, 1, 2);
-        hire.join(0);
-        dueUndo(hire, "join", 9, 0, 1);
-        hire.tear(0, 5);
-        dueUndo(hire, "tear", 3, 0, 1);
-        hire.soap(4);
-        dueUndo(hire, "soap", 12, 10, 14);
-        hire.gas(0, 4);
-        dueUndo(hire, "gas", 6, 17, 37);
-        hire.pass(7);
-        dueUndo(hire, "pass", 0, 4, 11);
+        dueUndo(hire, "tub", 1, 1, () -> hire.tub(2));
+        dueUndo(hire, "tent", 4, 1, () -> hire.tent(2));
+        dueUndo(hire, "heater", 5, 1, hire::heater);
+        dueUndo(hire, "join", 9, 1, () -> hire.join(0));
+        dueUndo(hire, "tear", 3, 1, () -> hire.tear(0, 5));
+        dueUndo(hire, "soap", 12, 4, () -> hire.soap(4));
+        dueUndo(hire, "gas", 6, 20, () -> hire.gas(0, 4));
+        dueUndo(hire, "pass", 0, 7, () -> hire.pass(7));
+        dueUndo(hire, "back", 2, -1, () -> hire.back(0));
         hire.back(0);
-        dueUndo(hire, "back", 14, 100, 0);
-        Checks.feed(hire, "hours 2;hours 3");
-        hire.read();
-        dueUndo(hire, "read", 0, 4, 9);
-        hire.cold(0);
-        Checks.due("the heater after cold", hire.tentOf(0, 2), -1);
-        hire.undo();
+        dueUndo(hire, "out", 13, 2, () -> hire.out(0, 0));
+        hire.tear(0, 5);
+        dueUndo(hire, "mend", 3, -1, () -> hire.mend(0, 5));
+        dueUndo(hire, "cold", 4, 0, () -> hire.cold(0));
         Checks.due("the heater after undo of cold", hire.tentOf(0, 2), 0);
-        undoesOtherChanges();
-        undoesABath();
-    }
-
-    private static void undoesOtherChanges() {
-        TubHire hire = new TubHire();
-        hire.tub(1);
-        hire.tear(0, 0);
-        hire.mend(0, 0);
-        dueUndo(hire, "mend", 3, 1, 0);
-        Checks.due("the coins after undo of mend", hire.number(13), 10);
-        hire.mend(0, 0);
-        hire.tent(0);
-        hire.out(0, 0);
-        dueUndo(hire, "out", 13, 8, 10);
-        Checks.due("the tub of the tent after undo of out", hire.tentOf(0, 1), -1);
-        hire.heater();
-        hire.heat(0, 0);
-        hire.undo();
-        Checks.due("the heater's tent after undo of heat", hire.heaterOf(0, false), -1);
+        hire.cold(0);
+        dueUndo(hire, "heat", 4, 0, () -> hire.heat(0, 0));
+        Checks.due("the heater after undo of heat", hire.tentOf(0, 2), -1);
+        dueUndo(hire, "read", 0, 5, () -> {
+            Checks.feed(hire, "hours 2;hours 3");
+            hire.read();
+        });
         TubHire used = Checks.withWarmTub(9);
         used.join(0);
         used.pass(1);
-        used.wash(1);
-        dueUndo(used, "wash", 8, 1, 0);
+        dueUndo(used, "wash", 8, -1, () -> used.wash(1));
+        undoesABath();
     }
 
     private static void undoesABath() {
