@@ -201,16 +201,16 @@ public final class TextsTest {
     }
 
     private static void failedCommands() {
-        TubHire hire = prepared();
         String[] failing = {"out 3 0", "out 0 3", "back 9", "heat 3 0", "heat 0 9", "cold 3", "join 3", "mend 3 0",
             "mend 0 8", "wash 0", "wash 21", "wash 99", "soap 0", "soap 00", "soap 21", "hours 0", "hours 49"};
         for (String command : failing) {
+            TubHire hire = prepared();
             dueRefusal(hire, command, 20, 0);
             dueRefusal(hire, "hours 1;" + command, 20, 1);
             dueRefusal(hire, "hours 1;hours 2;" + command + ";hours 3", 20, 2);
+            Checks.due("the hour after all that", hire.number(0), 0);
+            Checks.due("the latest refusal's reason", hire.refusal(true), 20);
         }
-        Checks.due("the hour after all that", hire.number(0), 0);
-        Checks.due("the latest refusal's reason", hire.refusal(true), 20);
     }
 
     private static void allOrNone() {
